@@ -3,14 +3,22 @@ import java.nio.charset.StandardCharsets;
 /** What the tests share: counting wrong answers, and texts in and out of a FormatMill. */
 final class Checks {
     private static final int FEED_BYTES = 20;
+    private static final int MOST_READ = 256;
+    private static final int READ_LIMIT = 2048;
     private int checked = 0;
     private int wrong = 0;
+    private String sentence = "";
+
+    /** Names the promise and the sentence of the document that the answers from here on belong to. */
+    void sentence(String promise, String words) {
+        sentence = promise + ", \"" + words + "\": ";
+    }
 
     void due(String call, Object got, Object want) {
         checked++;
         if (!want.equals(got)) {
             wrong++;
-            System.out.println(call + " answered " + shown(got) + ", due is " + shown(want));
+            System.out.println(sentence + call + " answered " + shown(got) + ", due is " + shown(want));
         }
     }
 
@@ -50,14 +58,38 @@ final class Checks {
     /** What is made, read until NONE. */
     static String madeText(FormatMill mill) {
         StringBuilder text = new StringBuilder();
-        for (int i = 0; mill.madeAt(i) != FormatMill.NONE; i++) {
-            text.append((char) mill.madeAt(i));
-        }
+        readOn(mill, text, READ_LIMIT);
         return text.toString();
     }
 
-    /** Fills a format on a new object: a String is typed as a word, a Long given as a number. */
+    /** The tape's bytes, which must hold no %: taken as the format, and made. */
+    static String tapeText(FormatMill mill) {
+        mill.format();
+        mill.make();
+        return madeText(mill);
+    }
+
+    /**
+     * Fills a format on a new object: a String is typed as a word, a Long given as a number.
+     * An object is good for 512 calls alone, so a long text is read off several objects.
+     */
     static Object filled(String format, Object... arguments) {
+        StringBuilder text = new StringBuilder();
+        int answer;
+        boolean ended;
+        do {
+            FormatMill mill = loaded(format, arguments);
+            answer = mill.make();
+            ended = readOn(mill, text, MOST_READ);
+        } while (!ended && text.length() < READ_LIMIT);
+        if (answer < 0) {
+            return text.length() == 0 ? (Object) answer : "answered " + answer + " with something made";
+        }
+        return answer == text.length() ? text.toString()
+            : "answered " + answer + " with " + text.length() + " bytes made";
+    }
+
+    static FormatMill loaded(String format, Object... arguments) {
         FormatMill mill = new FormatMill();
         setFormat(mill, format);
         for (Object argument : arguments) {
@@ -67,12 +99,19 @@ final class Checks {
                 addWord(mill, (String) argument);
             }
         }
-        int answer = mill.make();
-        String text = madeText(mill);
-        if (answer < 0) {
-            return text.isEmpty() ? (Object) answer : "answered " + answer + " with something made";
+        return mill;
+    }
+
+    /** Reads at most so many bytes behind those that the text has: true if NONE came. */
+    private static boolean readOn(FormatMill mill, StringBuilder text, int most) {
+        for (int i = 0; i < most; i++) {
+            int b = mill.madeAt(text.length());
+            if (b == FormatMill.NONE) {
+                return true;
+            }
+            text.append((char) b);
         }
-        return answer == text.length() ? text : "answered " + answer + " with " + text.length() + " bytes made";
+        return false;
     }
 
     void dueFilled(Object want, String format, Object... arguments) {
