@@ -32,7 +32,7 @@ public final class ArgumentsBoundaryTest {
     }
 
     private static void argumentOfTheEmptyTape() {
-        CHECKS.sentence("Promise 5", "The tape's bytes are an argument more, there being none");
+        CHECKS.sentence("Promise 5", "The tape's bytes are an argument more", "of no bytes");
         FormatMill mill = new FormatMill();
         CHECKS.due("argument()", mill.argument(), 0);
         CHECKS.due("argument() again", mill.argument(), 1);
@@ -52,7 +52,7 @@ public final class ArgumentsBoundaryTest {
     }
 
     private static void argumentRefusesMoreThan40() {
-        CHECKS.sentence("Promise 5", "NONE when they are more than 40");
+        CHECKS.sentence("Promise 5", "NONE when they are more than 40, or 20 are there", "more than 40");
         FormatMill mill = new FormatMill();
         int[][] rows = {{41, -1}, {40, 0}, {41, -1}, {39, 1}, {60, -1}, {400, -1}, {0, 2}, {42, -1}, {40, 3}};
         for (int[] row : rows) {
@@ -64,7 +64,7 @@ public final class ArgumentsBoundaryTest {
     }
 
     private static void argumentRefusesBehind20() {
-        CHECKS.sentence("Promise 5", "NONE when 20 are there");
+        CHECKS.sentence("Promise 5", "NONE when they are more than 40, or 20 are there", "20 are there");
         FormatMill mill = new FormatMill();
         for (int i = 0; i < 20; i++) {
             CHECKS.due("argument()", Checks.addWord(mill, "w" + i), i);
@@ -77,7 +77,7 @@ public final class ArgumentsBoundaryTest {
 
     /** The document says nowhere that a refused argument() leaves the tape; README.md tells this reading. */
     private static void argumentRefusedEmptiesTheTape() {
-        CHECKS.sentence("Promises 4 and 5", "empty then, as below, also with NONE");
+        CHECKS.sentence("Promises 4 and 5", "empty then, as below", "with NONE too");
         FormatMill mill = new FormatMill();
         Checks.addWord(mill, FORTY + "x");
         CHECKS.due("end(1) behind more than 40", mill.end(1), false);
@@ -91,7 +91,7 @@ public final class ArgumentsBoundaryTest {
     }
 
     private static void numberAnswersItsNumber() {
-        CHECKS.sentence("Promise 6", "An integer is an argument more: its number");
+        CHECKS.sentence("Promise 6", "An integer is an argument more (its decimal digits): its number", "the number");
         FormatMill mill = new FormatMill();
         for (int i = 0; i < 20; i++) {
             CHECKS.due("argument " + i, i % 3 == 1 ? Checks.addWord(mill, "w") : mill.number(-i), i);
@@ -100,7 +100,7 @@ public final class ArgumentsBoundaryTest {
     }
 
     private static void numberIsItsDecimalDigits() {
-        CHECKS.sentence("Promise 6", "An integer is an argument more (its decimal digits)");
+        CHECKS.sentence("Promise 6", "An integer is an argument more (its decimal digits): its number", "the digits");
         CHECKS.dueFilled("0", "%s", 0L);
         CHECKS.dueFilled("9223372036854775807", "%s", Long.MAX_VALUE);
         CHECKS.dueFilled("9223372036854775806", "%s", Long.MAX_VALUE - 1);
@@ -132,7 +132,7 @@ public final class ArgumentsBoundaryTest {
     }
 
     private static void numberLeavesTheTape() {
-        CHECKS.sentence("Promise 6", "An integer is an argument more, and the tape is not spoken of");
+        CHECKS.sentence("Promise 6", "An integer is an argument more", "the tape stays");
         FormatMill mill = new FormatMill();
         Checks.type(mill, FORTY);
         for (int i = 0; i < 21; i++) {
@@ -142,7 +142,7 @@ public final class ArgumentsBoundaryTest {
     }
 
     private static void clearOfNoneAndOfAll() {
-        CHECKS.sentence("Promise 7", "All arguments go");
+        CHECKS.sentence("Promise 7", "All arguments go", "of none, some and all");
         for (int count : new int[] {0, 1, 2, 19, 20}) {
             FormatMill mill = new FormatMill();
             for (int i = 0; i < count; i++) {
@@ -160,7 +160,7 @@ public final class ArgumentsBoundaryTest {
     }
 
     private static void clearDropsArgumentsAlone() {
-        CHECKS.sentence("Promise 7", "All arguments go, and nothing else");
+        CHECKS.sentence("Promise 7", "All arguments go", "they alone");
         FormatMill mill = Checks.loaded("<%s>", "word");
         mill.make();
         Checks.type(mill, "tape");
@@ -173,7 +173,7 @@ public final class ArgumentsBoundaryTest {
     }
 
     private static void clearMakesRoom() {
-        CHECKS.sentence("Promise 7", "All arguments go, so 20 have room again");
+        CHECKS.sentence("Promise 7", "All arguments go", "20 have room again");
         FormatMill mill = new FormatMill();
         for (int i = 0; i < 20; i++) {
             Checks.addWord(mill, FORTY);

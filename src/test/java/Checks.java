@@ -14,6 +14,11 @@ final class Checks {
         sentence = promise + ", \"" + words + "\": ";
     }
 
+    /** The same for a case of the sentence that the test alone is about. */
+    void sentence(String promise, String words, String which) {
+        sentence = promise + ", \"" + words + "\", " + which + ": ";
+    }
+
     void due(String call, Object got, Object want) {
         checked++;
         if (!want.equals(got)) {

@@ -1,4 +1,4 @@
-/** The boundary cases of the terms that promises 5, 6 and 8 use, words and integers: a test for each part of the sentence. */
+/** The boundary cases of the terms that promises 5, 6 and 8 use, words and integers: a test for each part of them. */
 public final class IntegerBoundaryTest {
     private static final Checks CHECKS = new Checks();
     private static final String PROMISE = "Terms, promises 5, 6 and 8";
@@ -55,7 +55,8 @@ public final class IntegerBoundaryTest {
         due("00", 0);
         due("007", 7);
         due("0123456789", 123456789);
-        for (String word : new String[] {"", "-", "+", "/", ":", "1/", "1:", "/1", ":1", "a", "f", "1a", "1e1", "\u00b2", "\u00b10"}) {
+        for (String word : new String[] {"", "-", "+", "/", ":", "1/", "1:", "/1", ":1", "a", "f", "1a", "1e1", "\u00b2",
+            "\u00b10"}) {
             dueNone(word);
         }
     }
@@ -100,6 +101,7 @@ public final class IntegerBoundaryTest {
         due("0xffffffff", 4294967295L);
         due("0x0fffffffffffffff", (1L << 60) - 1);
         due("+0xffffffffffffffff", -1);
+        CHECKS.dueFilled("7|1|-1|2|1", "%d|%d|%d|%d|%d", "7", "0x1", "-0x1", "2", "0x0000000000000001");
     }
 
     private static void thenTheSign() {

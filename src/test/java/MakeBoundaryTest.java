@@ -41,7 +41,7 @@ public final class MakeBoundaryTest {
     }
 
     private static void theFirstThingThatIsWrong() {
-        CHECKS.sentence("Promise 8", "or the first thing that is wrong, going along the format");
+        CHECKS.sentence("Promise 8", "the first thing that is wrong, going along the format", "at several places");
         CHECKS.dueFilled(FormatMill.BAD, "%y%s");
         CHECKS.dueFilled(FormatMill.BAD, "%y%d", "word");
         CHECKS.dueFilled(FormatMill.BAD, "%y%1025d", 7L);
@@ -59,7 +59,7 @@ public final class MakeBoundaryTest {
     }
 
     private static void oneWrongThingOfOnePlace() {
-        CHECKS.sentence("Promise 8", "the first thing that is wrong: BAD, FEW, WORD, LONG, all at one place");
+        CHECKS.sentence("Promise 8", "the first thing that is wrong, going along the format", "several at one place");
         CHECKS.dueFilled(FormatMill.BAD, "%1025y");
         CHECKS.dueFilled(FormatMill.BAD, "%1025y", "word");
         CHECKS.dueFilled(FormatMill.BAD, "%1024d%y", 7L);
@@ -114,7 +114,7 @@ public final class MakeBoundaryTest {
     }
 
     private static void longWithAPlace() {
-        CHECKS.sentence("Promise 8", "LONG (with a place filled it has more than 1024 bytes)");
+        CHECKS.sentence("Promise 8", "LONG (with a place filled, or a byte, it has more than 1024 bytes)", "a place");
         Object[][] rows = {{"%d", 7L, 1}, {"%d", -7L, 2}, {"%+d", 7L, 2}, {"% d", 7L, 2}, {"%d", Long.MIN_VALUE, 20},
             {"%x", -1L, 16}, {"%X", -1L, 16}, {"%o", -1L, 22}, {"%c", 0L, 1}, {"%s", "word", 4}, {"%s", FORTY, 40},
             {"%9d", 7L, 9}, {"%-9d", 7L, 9}, {"%09d", 7L, 9}, {"%+09d", 7L, 9}, {"%9s", "word", 9}, {"%-9s", "word", 9},
@@ -133,7 +133,7 @@ public final class MakeBoundaryTest {
     }
 
     private static void longWithAByte() {
-        CHECKS.sentence("Promise 8", "LONG (with a byte it has more than 1024 bytes)");
+        CHECKS.sentence("Promise 8", "LONG (with a place filled, or a byte, it has more than 1024 bytes)", "a byte");
         for (String one : new String[] {"a", "\0", "\u00ff", "%%", "%9%"}) {
             dueMake(1024, "%1023d" + one, 7L);
             dueMake(FormatMill.LONG, "%1024d" + one, 7L);
@@ -144,7 +144,7 @@ public final class MakeBoundaryTest {
     }
 
     private static void longOfFullWords() {
-        CHECKS.sentence("Promise 8", "LONG (it has more than 1024 bytes), of 20 full words");
+        CHECKS.sentence("Promise 8", "LONG (with a place filled, or a byte, it has more than 1024 bytes)", "20 full words");
         Object[] twenty = new Object[20];
         java.util.Arrays.fill(twenty, FORTY);
         String places = "%s".repeat(20);
@@ -156,7 +156,7 @@ public final class MakeBoundaryTest {
     }
 
     private static void exactly1024() {
-        CHECKS.sentence("Promise 8", "more than 1024 bytes, and 1024 are not more");
+        CHECKS.sentence("Promise 8", "LONG (with a place filled, or a byte, it has more than 1024 bytes)", "1024 are not more");
         CHECKS.dueFilled(" ".repeat(1023) + "7", "%1024d", 7L);
         CHECKS.dueFilled("7" + " ".repeat(1023), "%-1024d", 7L);
         CHECKS.dueFilled("-" + "0".repeat(1022) + "7", "%01024d", -7L);
@@ -165,7 +165,7 @@ public final class MakeBoundaryTest {
     }
 
     private static void nothingIsMadeThen() {
-        CHECKS.sentence("Promise 8", "nothing is made then");
+        CHECKS.sentence("Promise 8", "nothing is made then", "madeAt");
         Object[][] rows = {{"ab%y", FormatMill.BAD}, {"ab%", FormatMill.BAD}, {"%s%s", FormatMill.FEW},
             {"ab%s%s", FormatMill.FEW}, {"ab%d", FormatMill.WORD}, {"ab%1023s", FormatMill.LONG},
             {"%1024sa", FormatMill.LONG}, {"%1024s%%", FormatMill.LONG}};
@@ -182,7 +182,7 @@ public final class MakeBoundaryTest {
     }
 
     private static void formatAndArgumentsStay() {
-        CHECKS.sentence("Promise 8", "nothing is made then, and the format and the arguments stay");
+        CHECKS.sentence("Promise 8", "nothing is made then", "but format, arguments and tape stay");
         FormatMill mill = Checks.loaded("%s,%d", "one");
         CHECKS.due("make() with one", mill.make(), FormatMill.FEW);
         mill.number(2);
@@ -220,7 +220,7 @@ public final class MakeBoundaryTest {
     }
 
     private static void madeAtNone() {
-        CHECKS.sentence("Promise 9", "NONE");
+        CHECKS.sentence("Promise 9", "NONE", "no such byte");
         int[] lengths = {0, 1, 20, 1023, 1024};
         for (int length : lengths) {
             FormatMill mill = length == 0 ? Checks.loaded("") : Checks.loaded("%" + length + "d", 7L);
@@ -234,7 +234,7 @@ public final class MakeBoundaryTest {
     }
 
     private static void madeAtNoneBehindAShorterOne() {
-        CHECKS.sentence("Promise 9", "NONE, where an older one had more bytes");
+        CHECKS.sentence("Promise 9", "NONE", "where an older one had more bytes");
         FormatMill mill = Checks.loaded("%1024d", 7L);
         mill.make();
         Checks.setFormat(mill, "ab");

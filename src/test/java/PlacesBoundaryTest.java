@@ -87,12 +87,12 @@ public final class PlacesBoundaryTest {
     private static void kinds() {
         CHECKS.sentence(PROMISE, "then one of d x X o c s %");
         CHECKS.dueFilled("91|5b|5B|133|[|91|%", "%d|%x|%X|%o|%c|%s|%%", 91L, 91L, 91L, 91L, 91L, 91L);
-        CHECKS.dueFilled("dxXocs", "%dd%xx%XX%oo%cc%ss".replaceAll("%.", ""));
+        CHECKS.dueFilled("dxXocs", "dxXocs");
         CHECKS.dueFilled("7d7x7X7o7c7s", "%dd%dx%dX%do%dc%ds", 7L, 7L, 7L, 7L, 7L, 7L);
     }
 
     private static void theEndIsBad() {
-        CHECKS.sentence(PROMISE, "the end there makes the format BAD");
+        CHECKS.sentence(PROMISE, "the end, or another byte there, makes the format BAD", "the end");
         for (String ending : new String[] {"%", "%-", "%0", "%+", "% ", "%1", "%9", "%05", "%-0+ 5", "%100001", "%%%"}) {
             CHECKS.dueFilled(FormatMill.BAD, ending, 1L);
             CHECKS.dueFilled(FormatMill.BAD, "ab" + ending, 1L);
@@ -106,7 +106,7 @@ public final class PlacesBoundaryTest {
     }
 
     private static void anotherByteIsBad() {
-        CHECKS.sentence(PROMISE, "or another byte there, makes the format BAD");
+        CHECKS.sentence(PROMISE, "the end, or another byte there, makes the format BAD", "another byte");
         for (int b = 0; b < 256; b++) {
             boolean kind = "dxXocs%".indexOf(b) >= 0;
             boolean digit = b >= '0' && b <= '9';
@@ -175,7 +175,8 @@ public final class PlacesBoundaryTest {
     }
 
     private static void hexadecimal() {
-        CHECKS.sentence(PROMISE, "x X its 64 bits in hexadecimal (small or great letters), without 0s ahead");
+        CHECKS.sentence(PROMISE, "x X o its 64 bits in hexadecimal (small or great letters) or octal, without 0s ahead",
+            "x and X");
         for (int digit = 1; digit < 16; digit++) {
             String small = Integer.toHexString(digit);
             CHECKS.dueFilled(small + "|" + small.toUpperCase(), "%x|%X", (long) digit, (long) digit);
@@ -192,7 +193,8 @@ public final class PlacesBoundaryTest {
     }
 
     private static void octal() {
-        CHECKS.sentence(PROMISE, "o its 64 bits in octal, without 0s ahead");
+        CHECKS.sentence(PROMISE, "x X o its 64 bits in hexadecimal (small or great letters) or octal, without 0s ahead",
+            "o");
         CHECKS.dueFilled("1|7|10|77|100", "%o|%o|%o|%o|%o", 1L, 7L, 8L, 63L, 64L);
         for (int zeros = 0; zeros <= 20; zeros++) {
             CHECKS.dueFilled("7" + "0".repeat(zeros), "%o", 7L << 3 * zeros);
@@ -275,7 +277,7 @@ public final class PlacesBoundaryTest {
         CHECKS.sentence(PROMISE, "with - blanks (32) behind it");
         for (String flags : new String[] {"-", "-0", "0-", "-00-"}) {
             CHECKS.dueFilled("7   |-7  |f   |F   |7   |A   |w   ",
-                ("%F4d|%F4d|%F4x|%F4X|%F4o|%F4c|%F4s").replace("F", flags).replace("4" + flags, "4F"),
+                "%4d|%4d|%4x|%4X|%4o|%4c|%4s".replace("%", "%" + flags),
                 7L, -7L, 15L, 15L, 7L, 65L, "w");
         }
         CHECKS.dueFilled("+7  | 7  ", "%-+04d|%- 04d", 7L, 7L);

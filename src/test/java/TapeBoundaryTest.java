@@ -91,7 +91,7 @@ public final class TapeBoundaryTest {
     }
 
     private static void feedRefusesMoreThan400() {
-        CHECKS.sentence("Promise 2", "false, changing nothing, when it would have more than 400");
+        CHECKS.sentence("Promise 2", "false, changing nothing, when it would have more than 400", "the answer");
         FormatMill mill = new FormatMill();
         CHECKS.due("feeds that fit", feedsThatFit(mill), 20);
         int[][] rows = {{400, 0}, {399, 0}, {390, 0}, {381, 0}, {380, 1}};
@@ -107,7 +107,7 @@ public final class TapeBoundaryTest {
     }
 
     private static void feedRefusedChangesNothing() {
-        CHECKS.sentence("Promise 2", "false, changing nothing");
+        CHECKS.sentence("Promise 2", "false, changing nothing, when it would have more than 400", "nothing is changed");
         String full = ALPHABET.repeat(20);
         for (int length : new int[] {400, 381}) {
             FormatMill mill = new FormatMill();
@@ -136,7 +136,7 @@ public final class TapeBoundaryTest {
     }
 
     private static void endKeepsNoneOrAll() {
-        CHECKS.sentence("Promise 3", "Of the tape only the first n bytes count, n being 0 or all 400");
+        CHECKS.sentence("Promise 3", "Of the tape only the first n bytes count", "none or all 400");
         FormatMill all = new FormatMill();
         Checks.type(all, ALPHABET.repeat(20));
         CHECKS.due("end(400)", all.end(400), true);
@@ -149,7 +149,7 @@ public final class TapeBoundaryTest {
     }
 
     private static void endRefusesMoreThanThereAre() {
-        CHECKS.sentence("Promise 3", "false, changing nothing, when it has not so many");
+        CHECKS.sentence("Promise 3", "false, changing nothing, when it has not so many, or n is below 0", "not so many");
         for (int length : new int[] {0, 1, 19, 20, 21, 400}) {
             FormatMill mill = new FormatMill();
             String text = ALPHABET.repeat(20).substring(0, length);
@@ -162,7 +162,7 @@ public final class TapeBoundaryTest {
     }
 
     private static void endRefusesBelowZero() {
-        CHECKS.sentence("Promise 3", "false, changing nothing, when n is below 0");
+        CHECKS.sentence("Promise 3", "false, changing nothing, when it has not so many, or n is below 0", "below 0");
         for (int length : new int[] {0, 1, 20, 400}) {
             FormatMill mill = new FormatMill();
             String text = ALPHABET.repeat(20).substring(0, length);
@@ -177,7 +177,7 @@ public final class TapeBoundaryTest {
     }
 
     private static void formatAnswersHowMany() {
-        CHECKS.sentence("Promise 4", "The tape's bytes are the format: how many");
+        CHECKS.sentence("Promise 4", "The tape's bytes (empty then, as below) are the format: how many");
         for (int length : new int[] {0, 1, 19, 20, 21, 40, 41, 399, 400}) {
             String text = ALPHABET.repeat(20).substring(0, length);
             FormatMill mill = new FormatMill();
@@ -189,7 +189,7 @@ public final class TapeBoundaryTest {
     }
 
     private static void formatEmptiesTheTape() {
-        CHECKS.sentence("Promise 4", "empty then, as below");
+        CHECKS.sentence("Promise 4", "The tape's bytes (empty then, as below) are the format", "the tape behind it");
         FormatMill mill = new FormatMill();
         Checks.setFormat(mill, ALPHABET.repeat(20));
         CHECKS.due("end(1)", mill.end(1), false);
@@ -202,7 +202,7 @@ public final class TapeBoundaryTest {
     }
 
     private static void formatTakesTheTapeWhole() {
-        CHECKS.sentence("Promise 4", "The tape's bytes are the format");
+        CHECKS.sentence("Promise 4", "The tape's bytes (empty then, as below) are the format", "the whole format");
         FormatMill mill = new FormatMill();
         Checks.addWord(mill, "word");
         Checks.setFormat(mill, ALPHABET.repeat(20));
